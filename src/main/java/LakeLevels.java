@@ -426,7 +426,8 @@ public final class LakeLevels {
         int top = world.lakes.volumes.at(place) + world.ground.heightSum(wet)
                 - bottom * world.ground.heights.at(cell);
         int divisor = commonDivisor(top, bottom);
-        return (double) reduced(top, divisor) / (double) reduced(bottom, divisor);
+        int lowestBottom = reduced(bottom, divisor);
+        return lowestBottom > 0 ? (double) reduced(top, divisor) / (double) lowestBottom : 0.0;
     }
 
     private boolean wouldBeWet(int at, int amount, int target) {
@@ -1164,7 +1165,14 @@ public final class LakeLevels {
                 readHeights(ground);
             }
             for (int item = 0; item < MOST_TEXT && fault == NONE && place < length; item++) {
-                readItem(ground);
+                readSign(';');
+                boolean drain = next() == 'd';
+                readSign(drain ? 'd' : 'g');
+                if (drain) {
+                    readDrain(ground);
+                } else {
+                    readGate(ground);
+                }
             }
             return fault;
         }
@@ -1220,17 +1228,6 @@ public final class LakeLevels {
                     readSign(',');
                 }
                 ground.heights.put(cell, readNumber());
-            }
-        }
-
-        private void readItem(Ground ground) {
-            readSign(';');
-            if (next() == 'd') {
-                readSign('d');
-                readDrain(ground);
-            } else {
-                readSign('g');
-                readGate(ground);
             }
         }
 

@@ -28,6 +28,7 @@ public final class PromiseTest {
         count();
         pour();
         pouringOnAndOn();
+        manyBasins();
         rain();
         evaporate();
         take();
@@ -351,6 +352,32 @@ public final class PromiseTest {
         dueBalance("down the steps", steps, 10, 8, 2, 0);
     }
 
+    /** All 36 cells even, with gates of height 1 between all of them: the most basins there can be. */
+    private static void manyBasins() {
+        LakeLevels x = new LakeLevels();
+        x.begin(6, 6);
+        for (int cell = 0; cell < 36; cell++) {
+            if (cell % 6 < 5) {
+                x.setGate(cell, cell + 1, 1);
+            }
+            if (cell < 30) {
+                x.setGate(cell, cell + 6, 1);
+            }
+        }
+        Check.due("a basin for each cell", x.count(2), 36);
+        for (int round = 0; round < 5; round++) {
+            x.rain(1);
+            dueCounts("all full", x, 6, 6, 36, 36, 36, 0, 36);
+            x.pour(14, 1);
+            dueLake("all joined", x, 0, 37, NONE, 0, 36, 36, 36, NONE, NONE, NONE, 36);
+            Check.due("down to the lowest volume", x.take(0, 1), 1);
+            Check.due("all in one, until water is gone from it", x.count(3), 1);
+            x.take(0, 36);
+            dueCounts("all parted", x, 6, 6, 36, 36, 0, 0, 0);
+        }
+        dueBalance("many basins", x, 185, 0, 0, 185);
+    }
+
     private static void rain() {
         LakeLevels x = of(GATED);
         Check.due("rain(4)", x.rain(4), 0);
@@ -525,6 +552,11 @@ public final class PromiseTest {
         Check.due("of several the lowest number", x.deepest(), 0);
         x.pour(2, 1);
         Check.due("the deepest", x.deepest(), 2);
+        LakeLevels shallow = new LakeLevels();
+        shallow.begin(6, 6);
+        shallow.pour(20, 1);
+        Check.due("as shallow as can be", shallow.deepest(), 0);
+        Check.due("its depth", shallow.depth(20), 1.0 / 36.0);
     }
 
     private static void course() {

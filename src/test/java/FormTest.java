@@ -13,21 +13,36 @@ import java.util.regex.Pattern;
 
 /** The face of the class, and what a text search can tell of the rules of LANGUAGE.md. */
 public final class FormTest {
+    private static final String NO_SUCH = " throws IndexOutOfBoundsException";
+    private static final String RANGE = " throws IllegalArgumentException";
+    private static final String NOT_NOW = " throws IllegalStateException";
     private static final String[] FACE = {
-        "int amountFor(int, int)", "int append(int)", "long balance(int)", "int begin(int, int)",
-        "int between(int, int, boolean)", "int cell(int, int)", "int clearText()", "int count(int)",
-        "long course(int)", "int deepest()", "double depth(int)", "long digest()", "int evaporate(int)",
-        "int lake(int, int)", "long lakeCells(int)", "int level(int, int)", "int parse()", "int pour(int, int)",
-        "int rain(int)", "int rainToJoin()", "int random(int, int)", "boolean setDrain(int, boolean)",
-        "int setGate(int, int, int)", "int setHeight(int, int)", "int take(int, int)", "int undo()",
-        "int withoutGate(int, int)",
+        "int amountFor(int, int)" + NO_SUCH, "int append(int)" + RANGE + NOT_NOW, "long balance(int)" + RANGE,
+        "int begin(int, int)" + RANGE, "int between(int, int, boolean)" + NO_SUCH,
+        "int cell(int, int)" + NO_SUCH + RANGE, "int clearText()", "int count(int)" + RANGE,
+        "long course(int)" + NO_SUCH, "int deepest()", "double depth(int)" + NO_SUCH, "long digest()",
+        "int evaporate(int)" + RANGE, "int lake(int, int)" + NO_SUCH + RANGE, "long lakeCells(int)" + NO_SUCH,
+        "int level(int, int)" + NO_SUCH + RANGE, "int parse()", "int pour(int, int)" + NO_SUCH + RANGE + NOT_NOW,
+        "int rain(int)" + RANGE + NOT_NOW, "int rainToJoin()", "int random(int, int)" + RANGE,
+        "boolean setDrain(int, boolean)" + NO_SUCH, "int setGate(int, int, int)" + NO_SUCH + RANGE,
+        "int setHeight(int, int)" + NO_SUCH + RANGE, "int take(int, int)" + NO_SUCH + RANGE,
+        "int undo()" + NOT_NOW, "int withoutGate(int, int)" + NO_SUCH,
     };
-    /** Rules 2, 4, 6, 10 and 13, as far as words tell; rule 7 leaves nothing to be caught. */
+    /** Rules 2, 4, 5, 6, 10 and 13, as far as words tell; what the machine throws is never caught. */
     private static final String[] RULED_OUT = {
-        "->", "::", "\\bcatch\\b", "\\bfinally\\b", "\\btry\\b", "\\bsynchronized\\b", "\\bassert\\b",
-        "\\bpackage\\b", "Exact\\(", "\\bStream\\b", "String\\.format", "System\\.(out|err|nano|current)",
-        "\\bThread\\b", "\\bMap\\b", "\\bSet\\b", "\" *\\+", "\\+ *\"", "[^\\x00-\\x7f]", "static \\{",
+        "->", "::", "\\bfinally\\b", "\\bsynchronized\\b", "\\bassert\\b", "\\bpackage\\b", "\\bThread\\b",
+        "\\bnew (Random|Scanner|File)\\b", "Exact\\(", "\" *\\+", "\\+ *\"", "[^\\x00-\\x7f]", "static \\{",
+        "catch *\\( *(final )?(ArrayIndexOutOfBounds|NullPointer|ClassCast|NegativeArraySize|ArrayStore)",
+        "catch *\\( *(final )?(IndexOutOfBounds|Arithmetic|Runtime)?(Exception|Error|Throwable)",
     };
+    /** Rule 4: the static functions of the library. */
+    private static final String LIBRARY = "(Integer|Long|Math)\\.\\w+|System\\.arraycopy"
+            + "|Arrays\\.(copyOf|copyOfRange|fill)|List\\.of";
+    private static final String IMPORTS = "import java\\.util\\."
+            + "(Arrays|ArrayList|List|Iterator|NoSuchElementException);";
+    /** Rule 6. */
+    private static final String THROWN = "throw new (IllegalState|IllegalArgument|IndexOutOfBounds|Arithmetic"
+            + "|UnsupportedOperation|NoSuchElement|Runtime)Exception\\((\"[^\"]*\")?\\);";
 
     private FormTest() {
     }
@@ -35,7 +50,7 @@ public final class FormTest {
     public static void main(String[] args) throws IOException {
         String source = Files.readString(Path.of("src/main/java/LakeLevels.java"));
         face();
-        nestedClasses();
+        classes();
         words(source);
         methodLengths(source);
         Check.end();
@@ -74,22 +89,46 @@ public final class FormTest {
             told.append(separator).append(parameter);
             separator = ", ";
         }
-        return told.append(method.getParameterCount() == 0 ? "()" : ")").toString();
+        told.append(method.getParameterCount() == 0 ? "()" : ")");
+        for (Class<?> thrown : method.getExceptionTypes()) {
+            told.append(" throws ").append(thrown.getSimpleName());
+        }
+        return told.toString();
     }
 
-    private static void nestedClasses() {
+    /** Rules 1, 2, 3, 5 and 11. */
+    private static void classes() {
         Class<?>[] nested = LakeLevels.class.getDeclaredClasses();
-        Check.due("at most twelve classes", nested.length < 12 ? 1 : 0, 1);
+        Check.due("some twelve classes at most", nested.length < 12 ? 1 : 0, 1);
+        fields(LakeLevels.class);
+        parameters(LakeLevels.class);
         for (Class<?> type : nested) {
-            int fields = 0;
-            for (Field field : type.getDeclaredFields()) {
-                fields++;
-                boolean fine = !Modifier.isStatic(field.getModifiers()) || Modifier.isFinal(field.getModifiers());
-                Check.due("static fields are final: " + field, fine ? 1 : 0, 1);
-            }
-            Check.due("at most twenty fields: " + type, fields <= 20 ? 1 : 0, 1);
-            Check.due("private static: " + type,
-                    type.getModifiers() & (Modifier.PRIVATE | Modifier.STATIC), Modifier.PRIVATE | Modifier.STATIC);
+            boolean open = Modifier.isPublic(type.getModifiers()) || Modifier.isProtected(type.getModifiers());
+            Check.due("private or package-visible: " + type, open ? 1 : 0, 0);
+            Check.due("static: " + type, Modifier.isStatic(type.getModifiers()) ? 1 : 0, 1);
+            fields(type);
+            parameters(type);
+        }
+    }
+
+    private static void fields(Class<?> type) {
+        int fields = 0;
+        for (Field field : type.getDeclaredFields()) {
+            boolean fixed = Modifier.isStatic(field.getModifiers());
+            fields += fixed ? 0 : 1;
+            Check.due("static fields are final: " + field,
+                    !fixed || Modifier.isFinal(field.getModifiers()) ? 1 : 0, 1);
+            Class<?> kind = field.getType().isArray() ? field.getType().getComponentType() : field.getType();
+            boolean own = kind.isPrimitive() || kind.getName().startsWith("LakeLevels");
+            boolean library = kind == String.class || kind == StringBuilder.class || List.class.isAssignableFrom(kind);
+            Check.due("the type of " + field, own || library ? 1 : 0, 1);
+        }
+        Check.due("some twenty fields at most: " + type, fields <= 20 ? 1 : 0, 1);
+    }
+
+    private static void parameters(Class<?> type) {
+        for (Method method : type.getDeclaredMethods()) {
+            Check.due("at most seven parameters: " + method, method.getParameterCount() <= 7 ? 1 : 0, 1);
         }
     }
 
@@ -98,9 +137,26 @@ public final class FormTest {
         for (String word : RULED_OUT) {
             Check.due("how often there is " + word, Pattern.compile(word).matcher(code).results().count(), 0);
         }
-        Matcher imports = Pattern.compile("import .*").matcher(code);
-        while (imports.find()) {
-            Check.dueText("imports", imports.group(), "import java.util.Arrays;");
+        dueAll("imports", code, "import [^;]*;", IMPORTS);
+        dueAll("functions of the library", code, "\\b(Integer|Long|Math|System|Arrays|List|String)\\.\\w+(?=\\()", LIBRARY);
+        dueAll("what is thrown", code, "throw [^;]*;", THROWN);
+        dueAll("classes of the library", code,
+                "\\bnew (ArrayList|StringBuilder|String|[A-Z]\\w*Exception|[A-Z]\\w*)\\b",
+                "new (ArrayList|StringBuilder|String|" + ownClasses() + "|[A-Z]\\w*Exception)");
+    }
+
+    private static String ownClasses() {
+        StringBuilder names = new StringBuilder("LakeLevels");
+        for (Class<?> type : LakeLevels.class.getDeclaredClasses()) {
+            names.append('|').append(type.getSimpleName());
+        }
+        return names.toString();
+    }
+
+    private static void dueAll(String what, String code, String found, String allowed) {
+        Matcher matcher = Pattern.compile(found).matcher(code);
+        while (matcher.find()) {
+            Check.due(what + ": " + matcher.group(), matcher.group().matches(allowed) ? 1 : 0, 1);
         }
     }
 

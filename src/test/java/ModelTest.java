@@ -1,7 +1,8 @@
 /** Long mixed runs of calls, ordinary and wrong ones, answered by LakeLevels and by PlainModel alike. */
 public final class ModelTest {
-    private static final int RUNS = 120;
-    private static final int CALLS = 250;
+    private static final int RUNS = 400;
+    /** The document promises nothing behind 512 calls; the longest step, a text, makes some 160. */
+    private static final int CALLS = 345;
 
     private interface Answer {
         Object give();
@@ -13,6 +14,7 @@ public final class ModelTest {
     private final int run;
     private final int kind;
     private long state;
+    private int calls;
 
     private ModelTest(int run) {
         this.run = run;
@@ -30,7 +32,7 @@ public final class ModelTest {
 
     private void go() {
         shape();
-        for (int i = 0; i < CALLS && Check.allRight(); i++) {
+        while (calls < CALLS && Check.allRight()) {
             step();
             compare("digest()", real::digest, model::digest);
         }
@@ -49,8 +51,13 @@ public final class ModelTest {
         return (int) Math.floorMod(state >>> 8, (long) bound);
     }
 
+    private int count(int what) {
+        calls++;
+        return real.count(what);
+    }
+
     private int cells() {
-        return real.count(0) * real.count(1);
+        return count(0) * count(1);
     }
 
     private int someCell() {
@@ -62,7 +69,7 @@ public final class ModelTest {
     }
 
     private int neighborOf(int cell) {
-        int columns = real.count(0);
+        int columns = count(0);
         return below(15) == 0 ? someCell() : cell + new int[] {1, -1, columns, -columns}[below(4)];
     }
 
@@ -81,6 +88,7 @@ public final class ModelTest {
     // ---- calls
 
     private void compare(String call, Answer got, Answer want) {
+        calls++;
         told.append("  ").append(call);
         String answer = outcome(got);
         told.append(" = ").append(answer).append('\n');
@@ -148,9 +156,10 @@ public final class ModelTest {
             int rounds = below(12) == 0 ? new int[] {-1, 101, 100, 30}[below(4)] : below(6);
             compare("evaporate(" + rounds + ")", () -> real.evaporate(rounds), () -> model.evaporate(rounds));
         } else {
-            int lakes = real.count(3);
+            int lakes = count(3);
             int lake = below(20) == 0 ? below(3) * lakes - 1 : below(lakes + 1);
             int volume = lake >= 0 && lake < lakes ? real.lake(lake, 0) : 0;
+            calls++;
             int amount = below(20) == 0 ? volume + 1 - 2 * below(2) : below(volume + 1);
             compare("take(" + lake + ", " + amount + ")",
                     () -> real.take(lake, amount), () -> model.take(lake, amount));
@@ -207,7 +216,7 @@ public final class ModelTest {
     private void ask() {
         int cell = someCell();
         int other = neighborOf(cell);
-        int lake = below(real.count(3) + 2) - (below(9) == 0 ? 1 : 0);
+        int lake = below(count(3) + 2) - (below(9) == 0 ? 1 : 0);
         int what = below(12) - 1;
         boolean threshold = below(2) == 0;
         String arguments = cell + ", " + other + ", " + lake + ", " + what;
@@ -250,6 +259,7 @@ public final class ModelTest {
         String text = someText();
         for (int i = 0; i < text.length(); i++) {
             int value = text.charAt(i);
+            calls++;
             Check.dueText("run " + run + ": append(" + value + ")",
                     outcome(() -> real.append(value)), outcome(() -> model.append(value)));
         }

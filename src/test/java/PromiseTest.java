@@ -5,12 +5,9 @@ public final class PromiseTest {
     private static final Class<IllegalStateException> NOT_NOW = IllegalStateException.class;
     private static final int NONE = LakeLevels.NONE;
 
-    /** Two basins, {0, 1} and {2}, that a ridge of height 5 parts; nothing leaves. */
-    private static final String RIDGE = "31:0,5,0";
-    /** Three basins, {0, 1}, {2, 3} and {4}, between ridges of height 5. */
-    private static final String TWO_RIDGES = "51:0,5,0,5,0";
-    /** Two even cells that a gate of height 4 parts. */
-    private static final String GATED = "21:0,0;g0,1,4";
+    private static final String RIDGE = Made.RIDGE;
+    private static final String TWO_RIDGES = Made.TWO_RIDGES;
+    private static final String GATED = Made.GATED;
 
     private PromiseTest() {
     }
@@ -53,17 +50,11 @@ public final class PromiseTest {
     }
 
     private static LakeLevels of(String text) {
-        LakeLevels x = new LakeLevels();
-        write(x, text);
-        x.parse();
-        return x;
+        return Made.of(text);
     }
 
     private static void write(LakeLevels x, String text) {
-        x.clearText();
-        for (int i = 0; i < text.length(); i++) {
-            x.append(text.charAt(i));
-        }
+        Made.write(x, text);
     }
 
     private static void dueVolumes(String what, LakeLevels x, int... volumes) {

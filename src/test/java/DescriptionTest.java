@@ -225,6 +225,7 @@ public final class DescriptionTest {
         dueBasins("41:2,5,5,0", 0, 0, 0, 1);
         dueBasins("41:0,5,5,2", 0, 0, 0, 1);
         dueBasins("41:5,5,5,2", 0, 0, 0, 0);
+        dueBasins("32:3,1,9,5,5,9;g0,1,9", 0, 1, 1, 0, 0, 1);
         String[] gates = {"", ";g3,4,6", ";g3,4,6;g4,5,6", ";g3,4,6;g4,5,6;g1,4,6", ";g3,4,5"};
         int[] ends = {3, 5, 1, 7, 3};
         for (int i = 0; i < gates.length; i++) {
@@ -750,6 +751,11 @@ public final class DescriptionTest {
         two.pour(2, 3);
         Check.due("a dry lake gives nothing", two.evaporate(1), 1);
         Check.due("no lake", Made.of("21:0,0;d0").evaporate(100), 0);
+        LakeLevels fewer = Made.of(Made.TWO_RIDGES);
+        fewer.rain(2);
+        Check.due("three lakes", fewer.evaporate(1), 3);
+        fewer.pour(4, 20);
+        Check.due("one lake, all cells wet", fewer.evaporate(1), 5);
     }
 
     // ---- what if

@@ -51,8 +51,10 @@ public final class FormTest {
         String source = Files.readString(Path.of("src/main/java/LakeLevels.java"));
         face();
         classes();
-        words(source);
+        String code = source.replaceAll("(?s)/\\*.*?\\*/", "").replaceAll("//.*", "");
+        words(code);
         methodLengths(source);
+        callDepth(new CallGraph(code));
         Check.end();
     }
 
@@ -132,8 +134,7 @@ public final class FormTest {
         }
     }
 
-    private static void words(String source) {
-        String code = source.replaceAll("(?s)/\\*.*?\\*/", "").replaceAll("//.*", "");
+    private static void words(String code) {
         for (String word : RULED_OUT) {
             Check.due("how often there is " + word, Pattern.compile(word).matcher(code).results().count(), 0);
         }
@@ -169,6 +170,26 @@ public final class FormTest {
             } else if (lines[i].matches(" {4}(    )?\\}")) {
                 Check.due("length of the method in line " + (start + 1), i - start < 60 ? 1 : 0, 1);
             }
+        }
+    }
+
+    /** Rules 8 and 11; that the graph has the methods which reflection finds shows that it has read the text well. */
+    private static void callDepth(CallGraph graph) {
+        TreeSet<String> declared = new TreeSet<>();
+        methodNames(LakeLevels.class, declared);
+        for (Class<?> type : LakeLevels.class.getDeclaredClasses()) {
+            methodNames(type, declared);
+        }
+        TreeSet<String> read = new TreeSet<>(graph.methods());
+        read.removeIf(name -> name.matches("(\\w+)\\.\\1"));
+        Check.dueText("the methods that the text has", read.toString(), declared.toString());
+        Check.due("calls at most eight deep: " + graph.deepest(), graph.deepest() <= 8 ? 1 : 0, 1);
+    }
+
+    private static void methodNames(Class<?> type, TreeSet<String> names) {
+        for (Method method : type.getDeclaredMethods()) {
+            String name = type.getSimpleName() + "." + method.getName();
+            Check.due("one method alone is " + name, names.add(name) ? 1 : 0, 1);
         }
     }
 }

@@ -15,7 +15,7 @@ public final class ReadmeTest {
             + "\\{ water\\.append\\(sign\\); }");
     private static final Pattern CALL = Pattern.compile("water\\.(\\w+)\\((.*?)\\); +// "
             + "(-?[0-9.]*[0-9]|throws \\w+)\\b.*");
-    private static final Pattern ROW = Pattern.compile("\\| `(\\w+)\\((.*?)\\)` \\|(.*)\\|(.*)\\|(.*)\\|");
+    private static final Pattern ROW = Pattern.compile("\\| `(\\w+)\\((.*?)\\)` \\|.*\\|.*\\|(.*)\\|(.*)\\|");
     private static final Pattern WHAT_ROW = Pattern.compile("\\| (\\d) \\|(.*)\\|(.*)\\|(.*)\\|(.*)\\|");
     private static final String[] ASKED_BY_WHAT = {"cell", "count", "lake", "balance"};
 
@@ -118,10 +118,10 @@ public final class ReadmeTest {
         for (Class<?> type : method.getExceptionTypes()) {
             thrown.append(thrown.length() == 0 ? "" : ", ").append(type.getSimpleName());
         }
-        Check.dueText("what throws " + name, row.group(5).trim(), thrown.toString());
+        Check.dueText("what throws " + name, row.group(4).trim(), thrown.toString());
         for (String promise : promises) {
             if (promise.matches("(?s)Promise \\d+: " + name + "\n.*")) {
-                Check.due("undoable " + name, row.group(4).contains("undoable") ? 1 : 0,
+                Check.due("undoable " + name, row.group(3).contains("undoable") ? 1 : 0,
                         promise.contains("Undoable") ? 1 : 0);
             }
         }

@@ -8,7 +8,7 @@ import java.util.List;
 import java.util.regex.Matcher;
 import java.util.regex.Pattern;
 
-/** The README's examples answer as they say there, and its tables tell what the document and the class have. */
+/** The README's examples answer as they say there, and its tables tell what the promises and the class have. */
 public final class ReadmeTest {
     private static final Pattern NEW_OBJECT = Pattern.compile("LakeLevels water = new LakeLevels\\(\\);");
     private static final Pattern TEXT = Pattern.compile("for \\(char sign : \"(.*)\"\\.toCharArray\\(\\)\\) "
@@ -17,6 +17,12 @@ public final class ReadmeTest {
             + "(-?[0-9.]*[0-9]|throws \\w+)\\b.*");
     private static final Pattern ROW = Pattern.compile("\\| `(\\w+)\\((.*?)\\)` \\|.*\\|.*\\|(.*)\\|(.*)\\|");
     private static final Pattern WHAT_ROW = Pattern.compile("\\| (\\d) \\|(.*)\\|(.*)\\|(.*)\\|(.*)\\|");
+    /** The promises from the 2nd on; those with a star are undoable. */
+    private static final String[] PROMISED = {
+        "begin*", "setHeight*", "setDrain*", "setGate*", "random*", "cell", "between", "count",
+        "pour*", "rain*", "evaporate*", "take*", "balance", "lake", "lakeCells", "level", "depth", "deepest", "course",
+        "amountFor", "rainToJoin", "withoutGate", "append", "clearText", "parse*", "undo", "digest",
+    };
     private static final String[] ASKED_BY_WHAT = {"cell", "count", "lake", "balance"};
 
     private ReadmeTest() {
@@ -24,9 +30,8 @@ public final class ReadmeTest {
 
     public static void main(String[] args) throws IOException {
         List<String> lines = Files.readAllLines(Path.of("README.md"));
-        String[] promises = Files.readString(Path.of("../shared/DOC.md")).split("\n## ");
         examples(lines);
-        calls(lines, promises);
+        calls(lines);
         whats(lines);
         Check.end();
     }
@@ -91,25 +96,19 @@ public final class ReadmeTest {
     }
 
     /** One row for each method, in the order of the promises, with the exceptions that it declares. */
-    private static void calls(List<String> lines, String[] promises) {
+    private static void calls(List<String> lines) {
         List<String> told = new ArrayList<>();
         for (String line : lines) {
             Matcher row = ROW.matcher(line);
             if (row.matches()) {
-                told.add(row.group(1));
-                call(row, promises);
+                told.add(row.group(1) + (row.group(3).contains("undoable") ? "*" : ""));
+                call(row);
             }
         }
-        List<String> promised = new ArrayList<>();
-        for (String promise : promises) {
-            if (promise.startsWith("Promise ") && !promise.startsWith("Promise 1:")) {
-                promised.add(promise.substring(promise.indexOf(": ") + 2, promise.indexOf('\n')));
-            }
-        }
-        Check.dueText("the rows of calls", told.toString(), promised.toString());
+        Check.dueText("the rows of calls", told.toString(), List.of(PROMISED).toString());
     }
 
-    private static void call(Matcher row, String[] promises) {
+    private static void call(Matcher row) {
         String name = row.group(1);
         Method method = methodNamed(name);
         int arguments = row.group(2).isEmpty() ? 0 : row.group(2).split(", ").length;
@@ -119,12 +118,6 @@ public final class ReadmeTest {
             thrown.append(thrown.length() == 0 ? "" : ", ").append(type.getSimpleName());
         }
         Check.dueText("what throws " + name, row.group(4).trim(), thrown.toString());
-        for (String promise : promises) {
-            if (promise.matches("(?s)Promise \\d+: " + name + "\n.*")) {
-                Check.due("undoable " + name, row.group(3).contains("undoable") ? 1 : 0,
-                        promise.contains("Undoable") ? 1 : 0);
-            }
-        }
     }
 
     /** A value is told exactly where the call answers. */
